@@ -22,6 +22,25 @@ final class Due {
         same(call, got ? 1 : 0, 0);
     }
 
+    /** A test of its own for one sentence of the document: it asks something, and nothing is thrown. */
+    static void sentence(String words, Runnable test) {
+        int askedBefore = asked;
+        int wrongBefore = wrong;
+        try {
+            test.run();
+        } catch (RuntimeException | Error thrown) {
+            wrong++;
+            System.out.println("thrown: " + thrown);
+        }
+        if (asked == askedBefore) {
+            wrong++;
+            System.out.println("nothing was asked");
+        }
+        if (wrong != wrongBefore) {
+            System.out.println("NOT HELD: " + words);
+        }
+    }
+
     /** What read() answers, and what is said of it afterwards. */
     static void read(String of, MapLumps x, int fault, int place, int wall) {
         same(of + ": read()", x.read(), fault);

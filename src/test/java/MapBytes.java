@@ -78,6 +78,16 @@ final class MapBytes {
         return x;
     }
 
+    /** The small map with other bytes at some places, and its CHECK put right. */
+    static MapLumps poked(int... placesAndBytes) {
+        MapLumps x = given(small().withCheck());
+        for (int k = 0; k < placesAndBytes.length; k += 2) {
+            Due.yes("poke", x.poke(placesAndBytes[k], placesAndBytes[k + 1]));
+        }
+        Due.yes("check()", x.check());
+        return x;
+    }
+
     static void give(MapLumps x, byte[] bytes) {
         for (int at = 0; at < bytes.length; at += 8) {
             int n = Math.min(8, bytes.length - at);
@@ -87,6 +97,29 @@ final class MapBytes {
             }
             Due.yes("give(" + v + ", " + n + ")", x.give(v, n));
         }
+    }
+
+    /** The least map there is: a floor needs a TEXTURE, so there is one, and one SECTOR; 27 bytes. */
+    static MapBytes least() {
+        return new MapBytes(0, 1, 1, 0).texture(0, 0, 0).plainSector().start(0, 0, 0, 0);
+    }
+
+    /** As many of all parts as there can be, with textures of one texel: a ring of walls along a curve. */
+    static MapBytes most() {
+        MapBytes map = new MapBytes(128, 16, 32, 128);
+        for (int k = 0; k < 128; k++) {
+            map.vertex(k, k * k);
+        }
+        for (int k = 0; k < 16; k++) {
+            map.texture(0, 0, k);
+        }
+        for (int k = 0; k < 32; k++) {
+            map.plainSector();
+        }
+        for (int k = 0; k < 128; k++) {
+            map.plainWall(k, (k + 1) % 128);
+        }
+        return map.start(0, 0, 0, 0);
     }
 
     /**

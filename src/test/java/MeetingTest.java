@@ -118,6 +118,8 @@ public final class MeetingTest {
         pair("one beside the diagonal", false, w(LOW, LOW, HIGH, HIGH), w(HIGH, HIGH - 1, LOW + 1, LOW));
         pair("all but the same way", false, w(LOW, LOW, HIGH, HIGH), w(LOW, LOW, HIGH, HIGH - 1));
         pair("just past the diagonal", true, w(LOW, LOW, HIGH, HIGH), w(LOW, LOW + 1, HIGH, HIGH - 1));
+        pair("the bottom twice", true, w(LOW, LOW, HIGH, LOW), w(LOW, LOW, HIGH, LOW));
+        pair("the left side twice", true, w(LOW, LOW, LOW, HIGH), w(LOW, LOW, LOW, HIGH));
         pair("the diagonal, back", true, w(LOW, LOW, HIGH, HIGH), w(HIGH, HIGH, 0, 0));
     }
 

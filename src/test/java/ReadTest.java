@@ -30,19 +30,10 @@ public final class ReadTest {
         Due.readWell("all of it", MapBytes.given(SMALL));
     }
 
-    private static MapLumps poked(int... placesAndBytes) {
-        MapLumps x = MapBytes.given(SMALL);
-        for (int k = 0; k < placesAndBytes.length; k += 2) {
-            Due.yes("poke", x.poke(placesAndBytes[k], placesAndBytes[k + 1]));
-        }
-        Due.yes("check()", x.check());
-        return x;
-    }
-
     private static void marks() {
         for (int place = 0; place < 3; place++) {
             for (int b : new int[] {0, 2, 71, 73, 76, 78, 255}) {
-                MapLumps x = poked(place, b);
+                MapLumps x = MapBytes.poked(place, b);
                 Due.read("byte " + place + " is " + b, x, 2, place, -1);
                 x.cut(place + 1);
                 Due.read("byte " + place + " is " + b + ", cut", x, 2, place, -1);
@@ -52,7 +43,7 @@ public final class ReadTest {
 
     private static void wrong(int place, int... bytes) {
         for (int b : bytes) {
-            MapLumps x = poked(place, b);
+            MapLumps x = MapBytes.poked(place, b);
             Due.read("byte " + place + " is " + b, x, 3, place, -1);
             x.cut(place + 1);
             Due.read("byte " + place + " is " + b + ", the last one", x, 3, place, -1);
@@ -99,7 +90,7 @@ public final class ReadTest {
 
     private static void right(int place, int... bytes) {
         for (int b : bytes) {
-            Due.readWell("byte " + place + " is " + b, poked(place, b));
+            Due.readWell("byte " + place + " is " + b, MapBytes.poked(place, b));
         }
     }
 
@@ -127,13 +118,13 @@ public final class ReadTest {
         right(86, 0, 63);
         right(87, 0, 1);
         // Without a BACK, the BACK's TEXTURES of the second wall can not be there.
-        Due.read("no BACK", poked(71, 255), 3, 75, -1);
-        Due.read("no BACK, no upper", poked(71, 255, 75, 255), 3, 76, -1);
-        Due.readWell("no BACK, no textures", poked(71, 255, 75, 255, 76, 255));
+        Due.read("no BACK", MapBytes.poked(71, 255), 3, 75, -1);
+        Due.read("no BACK, no upper", MapBytes.poked(71, 255, 75, 255), 3, 76, -1);
+        Due.readWell("no BACK, no textures", MapBytes.poked(71, 255, 75, 255, 76, 255));
     }
 
     private static MapLumps levels(int floor, int ceiling) {
-        return poked(45, floor >> 8, 46, floor, 47, ceiling >> 8, 48, ceiling);
+        return MapBytes.poked(45, floor >> 8, 46, floor, 47, ceiling >> 8, 48, ceiling);
     }
 
     private static void wrongLevels() {
@@ -156,13 +147,13 @@ public final class ReadTest {
     }
 
     private static void verticesAtOnePlace() {
-        Due.read("1 where 0 is", poked(12, 0), 3, 13, -1);
-        Due.read("2 where 1 is", poked(18, 0), 3, 17, -1);
-        Due.read("3 where 0 is", poked(19, 0, 21, 0, 22, 0), 3, 21, -1);
-        Due.read("3 where 2 is", poked(19, 0, 20, 10, 21, 0, 22, 10), 3, 21, -1);
-        Due.readWell("3 by 2", poked(19, 0, 20, 10, 21, 0, 22, 11));
-        Due.readWell("3 with x and y changed", poked(19, 0, 20, 0, 21, 0, 22, 10));
-        MapLumps cut = poked(12, 0);
+        Due.read("1 where 0 is", MapBytes.poked(12, 0), 3, 13, -1);
+        Due.read("2 where 1 is", MapBytes.poked(18, 0), 3, 17, -1);
+        Due.read("3 where 0 is", MapBytes.poked(19, 0, 21, 0, 22, 0), 3, 21, -1);
+        Due.read("3 where 2 is", MapBytes.poked(19, 0, 20, 10, 21, 0, 22, 10), 3, 21, -1);
+        Due.readWell("3 by 2", MapBytes.poked(19, 0, 20, 10, 21, 0, 22, 11));
+        Due.readWell("3 with x and y changed", MapBytes.poked(19, 0, 20, 0, 21, 0, 22, 10));
+        MapLumps cut = MapBytes.poked(12, 0);
         cut.cut(15);
         Due.read("1 where 0 is, its last byte", cut, 3, 13, -1);
         cut.cut(14);
@@ -170,13 +161,13 @@ public final class ReadTest {
     }
 
     private static void numbersAreJudgedWhole() {
-        MapLumps x = poked(36, 127);
+        MapLumps x = MapBytes.poked(36, 127);
         Due.read("FLOOR 127 * 256", x, 3, 36, -1);
         x.cut(38);
         Due.read("FLOOR 127 * 256, cut behind", x, 3, 36, -1);
         x.cut(37);
         Due.read("half a FLOOR", x, 1, 37, -1);
-        x = poked(38, 127);
+        x = MapBytes.poked(38, 127);
         x.cut(39);
         Due.read("half a CEILING", x, 1, 39, -1);
     }
@@ -206,8 +197,7 @@ public final class ReadTest {
         moved.poke(85, SMALL[83]);
         Due.read("bytes of START in another order", moved, 4, 89, -1);
         // 251 counts as 0 in a sum but is another byte.
-        MapLumps sum = MapBytes.given(new MapBytes(0, 1, 1, 0).texture(0, 0, 0).plainSector()
-            .start(0, 0, 0, 0).withCheck());
+        MapLumps sum = MapBytes.given(MapBytes.least().withCheck());
         int first = sum.byteAt(25, true);
         sum.poke(18, 251 - first);
         sum.check();
@@ -229,20 +219,20 @@ public final class ReadTest {
         x.cut(90);
         Due.readWell("none more", x);
         // With a wall fewer, its bytes are read as START and CHECK, which is never 255.
-        Due.read("a wall fewer", poked(6, 1), 4, 74, -1);
+        Due.read("a wall fewer", MapBytes.poked(6, 1), 4, 74, -1);
     }
 
     private static void theFirstFaultCounts() {
-        Due.read("2 ahead of 3", poked(2, 3, 3, 255), 2, 2, -1);
-        Due.read("3 ahead of 3", poked(87, 9, 42, 99), 3, 42, -1);
-        Due.read("FLOOR ahead of CEILING", poked(45, 127, 47, 128), 3, 45, -1);
-        MapLumps x = poked(86, 64);
+        Due.read("2 ahead of 3", MapBytes.poked(2, 3, 3, 255), 2, 2, -1);
+        Due.read("3 ahead of 3", MapBytes.poked(87, 9, 42, 99), 3, 42, -1);
+        Due.read("FLOOR ahead of CEILING", MapBytes.poked(45, 127, 47, 128), 3, 45, -1);
+        MapLumps x = MapBytes.poked(86, 64);
         x.poke(89, x.byteAt(89, true) + 1);
         Due.read("3 ahead of 4", x, 3, 86, -1);
         x.cut(60);
         Due.read("1 ahead of 3", x, 1, 60, -1);
         // A wall that goes back where the first one is: 6, but only when all else is right.
-        MapLumps y = poked(69, 0);
+        MapLumps y = MapBytes.poked(69, 0);
         Due.read("6", y, 6, 68, 1);
         y.give(0, 1);
         Due.read("5 ahead of 6", y, 5, 90, -1);
@@ -260,11 +250,10 @@ public final class ReadTest {
     }
 
     private static void smallestAndLargest() {
-        MapBytes least = new MapBytes(0, 1, 1, 0).texture(0, 0, 0).plainSector().start(0, 0, 0, 0);
-        MapLumps x = MapBytes.given(least.withCheck());
+        MapLumps x = MapBytes.given(MapBytes.least().withCheck());
         Due.readWell("the least map", x);
         Due.same("its bytes", x.write(), 27);
-        x = MapBytes.given(most().withCheck());
+        x = MapBytes.given(MapBytes.most().withCheck());
         Due.readWell("the most of all parts", x);
         int[] due = {2655, 0, 128, 16, 32, 128};
         for (int which = 0; which < due.length; which++) {
@@ -274,24 +263,6 @@ public final class ReadTest {
         Due.same("wall(127, 1)", x.wall(127, 1), 0);
         Due.same("sector(31, 1)", x.sector(31, 1), 1);
         Due.same("texture(15, 2)", x.texture(15, 2), 15);
-    }
-
-    /** As many of all parts as there can be: a ring of walls along a curve. */
-    private static MapBytes most() {
-        MapBytes map = new MapBytes(128, 16, 32, 128);
-        for (int k = 0; k < 128; k++) {
-            map.vertex(k, k * k);
-        }
-        for (int k = 0; k < 16; k++) {
-            map.texture(0, 0, k);
-        }
-        for (int k = 0; k < 32; k++) {
-            map.plainSector();
-        }
-        for (int k = 0; k < 128; k++) {
-            map.plainWall(k, (k + 1) % 128);
-        }
-        return map.start(0, 0, 0, 0);
     }
 
     private static void whatStays() {
@@ -311,7 +282,8 @@ public final class ReadTest {
         Due.same("look(1)", x.look(1), 90);
         x.cut(0);
         Due.same("start(2) of THE MAP", x.start(2), 63);
-        MapBytes.give(x, new MapBytes(0, 1, 1, 0).texture(0, 0, 7).plainSector().start(1, 2, 3, 0).withCheck());
+        MapBytes.give(x, new MapBytes(0, 1, 1, 0).texture(0, 0, 7).plainSector()
+            .start(1, 2, 3, 0).withCheck());
         Due.same("start(2) before it is read", x.start(2), 63);
         Due.readWell("another map", x);
         Due.same("start(2) of the other", x.start(2), 3);
